@@ -174,6 +174,7 @@ public final class DeckBalance {
         int above = now.mix.parts[deck];
         int below = now.mix.whole;
         int common = greatestDivisor(above, below);
+        // There is always a MIX, so below is above 0; a divisor is looked at all the same.
         if (common == 0) {
             return BAD;
         }
