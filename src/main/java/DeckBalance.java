@@ -74,8 +74,11 @@ public final class DeckBalance {
         if (isNoDeck(deck) || isNoCard(card)) {
             return BAD;
         }
-        forgetTables();
-        return decks[deck].append(card);
+        int size = decks[deck].append(card);
+        if (size != FULL) {
+            forgetTables();
+        }
+        return size;
     }
 
     public int drop(int deck, int place) {

@@ -1,6 +1,7 @@
 /** Counts the calls whose answer is not the one that is due, and makes objects to ask. */
 final class Due {
     static final int LEAST = Integer.MIN_VALUE;
+    static final int MOST = Integer.MAX_VALUE;
     private int asked;
     private int wrong;
 
@@ -30,6 +31,11 @@ final class Due {
         for (int what = 0; what < 5; what++) {
             is(of + ": told(" + a + ", " + b + ", " + what + ")", x.told(a, b, what), want[what]);
         }
+    }
+
+    /** Numbers out of their bounds: just outside, and as far as an int goes. */
+    static int[] outside(int least, int most) {
+        return new int[] {least - 1, most + 1, LEAST, MOST};
     }
 
     void end() {

@@ -1,6 +1,9 @@
 import java.util.Random;
 
-/** Promise 15 by the words of the document alone: the shares HOLD, and no MIX of parts that HOLDS is greater. */
+/**
+ * Promise 15 by the words of the document alone: "none below 0, all together 1", "in lowest terms",
+ * the shares HOLD, and no MIX of up to eight parts that HOLDS is greater.
+ */
 public final class GreatestMixTest {
     private static final Due due = new Due();
 
@@ -18,12 +21,14 @@ public final class GreatestMixTest {
             for (int d = 0; d < n; d++) {
                 parts[d] = x.share(d, 0) * (whole / x.share(d, 1));
                 sum += parts[d];
+                due.is("run " + run + ": none below 0", parts[d] < 0 ? 1 : 0, 0);
                 due.is("run " + run + ": lowest terms", common(x.share(d, 0), x.share(d, 1)), 1);
             }
             due.is("run " + run + ": all together 1", sum, whole);
-            due.is("run " + run + ": the shares hold", holds(x, parts) ? 1 : 0, 1);
+            int[][] tables = tables(x, n);
+            due.is("run " + run + ": the shares hold", holds(tables, parts) ? 1 : 0, 1);
             for (int of = 1; of <= 8; of++) {
-                seekGreater(x, parts, whole, new long[n], 0, of, of);
+                seekGreater(tables, parts, whole, new long[n], 0, of, of);
             }
         }
         due.end();
@@ -46,17 +51,28 @@ public final class GreatestMixTest {
         return x;
     }
 
-    private static void seekGreater(DeckBalance x, long[] parts, long whole, long[] other, int from, long left, long of) {
+    /** Asked once only: an object is used for 512 calls at most. */
+    private static int[][] tables(DeckBalance x, int n) {
+        int[][] tables = new int[n][n];
+        for (int a = 0; a < n; a++) {
+            for (int b = 0; b < n; b++) {
+                tables[a][b] = x.table(a, b);
+            }
+        }
+        return tables;
+    }
+
+    private static void seekGreater(int[][] tables, long[] parts, long whole, long[] other, int from, long left, long of) {
         if (from == other.length - 1) {
             other[from] = left;
             if (isGreater(other, of, parts, whole)) {
-                due.is("a greater mix holds", holds(x, other) ? 1 : 0, 0);
+                due.is("a greater mix holds", holds(tables, other) ? 1 : 0, 0);
             }
             return;
         }
         for (long p = left; p >= 0; p--) {
             other[from] = p;
-            seekGreater(x, parts, whole, other, from + 1, left - p, of);
+            seekGreater(tables, parts, whole, other, from + 1, left - p, of);
         }
     }
 
@@ -69,11 +85,11 @@ public final class GreatestMixTest {
         return false;
     }
 
-    private static boolean holds(DeckBalance x, long[] parts) {
+    private static boolean holds(int[][] tables, long[] parts) {
         for (int against = 0; against < parts.length; against++) {
             long sum = 0;
             for (int d = 0; d < parts.length; d++) {
-                sum += parts[d] * x.table(d, against);
+                sum += parts[d] * tables[d][against];
             }
             if (sum < 0) {
                 return false;
