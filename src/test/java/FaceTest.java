@@ -79,7 +79,29 @@ public final class FaceTest {
         for (Class<?> c : inside) {
             due.is(c + " is static", Modifier.isStatic(c.getModifiers()) ? 1 : 0, 1);
             due.is(c + " is not open", c.getModifiers() & (Modifier.PUBLIC | Modifier.PROTECTED), 0);
+            fieldsInside(c);
+            for (Method m : c.getDeclaredMethods()) {
+                due.is(m + " bears no public name", isPublicName(m.getName()) ? 1 : 0, 0);
+            }
         }
+    }
+
+    private static void fieldsInside(Class<?> c) {
+        int own = 0;
+        for (Field f : c.getDeclaredFields()) {
+            due.is(f + " is final if static", Modifier.isStatic(f.getModifiers()) && !Modifier.isFinal(f.getModifiers()) ? 1 : 0, 0);
+            own += Modifier.isStatic(f.getModifiers()) ? 0 : 1;
+        }
+        due.is("some twenty fields at most in " + c, own <= 20 ? 1 : 0, 1);
+    }
+
+    private static boolean isPublicName(String name) {
+        for (String method : METHODS) {
+            if (method.contains(" " + name + "(")) {
+                return true;
+            }
+        }
+        return false;
     }
 
     private static void shortMethods(String code) {
